@@ -23,8 +23,7 @@ public final class SlateQuarry {
     private static final int MOST_HAULED = 20;
     private static final int CELLS_OF_A_BLOCK = 3;
 
-    private final Tape tape = new Tape();
-    private final LawReader reader = new LawReader(tape);
+    private final LawReader reader = new LawReader();
     private LawBook book = new LawBook();
     private LawBook draft = new LawBook();
     private int latestFault = 0;
@@ -52,18 +51,18 @@ public final class SlateQuarry {
     // ---- laws
 
     public int feed(long v) {
-        return tape.append(v) ? tape.length : FULL;
+        return reader.tape.append(v) ? reader.tape.length : FULL;
     }
 
     public int end(int n) {
-        int had = tape.length;
-        return tape.keepFirst(n) ? had : BAD;
+        int had = reader.tape.length;
+        return reader.tape.keepFirst(n) ? had : BAD;
     }
 
     public int laws() {
         draft.forget();
         latestFault = reader.read(draft);
-        tape.empty();
+        reader.tape.empty();
         if (latestFault != 0) {
             return FAULT_BASE - reader.place;
         }
@@ -536,23 +535,19 @@ public final class SlateQuarry {
         }
     }
 
-    /** Reads the laws of a tape; each fault lies at the token that was read last. */
+    /** Reads the laws of its tape; each fault lies at the token that was read last. */
     private static final class LawReader {
         private static final int NO_TOKEN = 1, MISPLACED = 2, OUT_OF_BOUNDS = 3, TOO_OFTEN = 4, NOT_ABOVE = 5;
         private static final int AT_END = 0, NAME = 1, NUMBER = 2, STOP = 3;
         private static final int MOST_FIGURES = 4;
         private static final int BLANK = 32;
 
-        private final Tape tape;
+        final Tape tape = new Tape();
         private int next = 0;
         private int token = AT_END;
         private int value = 0;
         private int fault = 0;
         int place = 0;
-
-        LawReader(Tape tape) {
-            this.tape = tape;
-        }
 
         int read(LawBook into) {
             next = 0;
@@ -805,7 +800,7 @@ public final class SlateQuarry {
             hasPaidTools = false;
         }
 
-        // The account may be below 0, and a great one times the men is beyond an int.
+        // The account may be below 0, where a plain division would go up.
         int shareOf(int n) {
             return men < 1 ? 0 : (int) Math.floorDiv((long) account * n, (long) men);
         }

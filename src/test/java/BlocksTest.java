@@ -110,7 +110,7 @@ public final class BlocksTest {
         y.size(4, 5);
         y.size(3, 5);
         pieces(y, 5, 0, 0, RUBBISH);
-        pieces(y, 5, 1, 0 + RUBBISH, 0);
+        pieces(y, 5, 1, RUBBISH, 0);
     }
 
     private static void pay() {

@@ -7,6 +7,7 @@ public final class LawsTest {
         tellsLaws();
         lawNumbers();
         poundage();
+        poundsAreForgotten();
         bounds();
         faultsOfTokens();
         faultsOfPlaces();
@@ -118,6 +119,18 @@ public final class LawsTest {
         }
     }
 
+    private static void poundsAreForgotten() {
+        SlateQuarry x = new SlateQuarry();
+        Due.laws(x, "pound 2 7;pound 9 8;", 2);
+        Due.laws(x, "pound 3 5;pound 9 6;", 2);
+        Due.laws(x, "pound 1 4;", 1);
+        Due.is("told", x.law(11), 4);
+        Due.is("told no more", x.law(12), 0);
+        Due.laws(x, "", 0);
+        Due.is("told no more", x.law(10), 0);
+        Due.is("told no more", x.law(19), 0);
+    }
+
     private static void bounds() {
         SlateQuarry x = new SlateQuarry();
         Due.laws(x, "top 0;hang 1;tool 0;club 0;pound 0 0;", 5);
@@ -132,6 +145,9 @@ public final class LawsTest {
         Due.fault(x, "tap 1;", 1, 0);
         Due.fault(x, "topp 1;", 1, 0);
         Due.fault(x, "to 1;", 1, 0);
+        Due.fault(x, "xop 1;", 1, 0);
+        Due.fault(x, "topz 1;", 1, 0);
+        Due.fault(x, "topa 1;", 1, 0);
         Due.fault(x, "pounds 1 1;", 1, 0);
         Due.fault(x, "Top 1;", 1, 0);
         Due.fault(x, "tophang 1;", 1, 0);

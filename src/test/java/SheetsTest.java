@@ -78,7 +78,7 @@ public final class SheetsTest {
         Due.is("another lane", x.haul(0, 0, 0, 1), -13);
         block(x, 0, 0, 65536, -65536 + 10, 0x1F00FFL);
         Due.is("shorts", x.haul(0, 1, 0, 1), 1);
-        Due.is("rubbish", x.count(8), 0 + 8 + 8);
+        Due.is("rubbish", x.count(8), 16);
         x.lay(0, 0, 256);
         Due.is("a short of 256", x.haul(0, 1, 0, 1), -21);
         x.sheet(0, 2, 3);

@@ -39,10 +39,10 @@ public final class WallsTest {
             Due.is("ask", x.ask(0, g, 0, 0), SlateQuarry.BAD);
         }
         for (int c : NO_COLUMNS) {
-            Due.is("rock", x.rock(0, c, 1), SlateQuarry.BAD);
-            Due.is("face", x.face(0, c, 0), SlateQuarry.BAD);
-            Due.is("clear", x.clear(0, c, 0), SlateQuarry.BAD);
-            Due.is("ask", x.ask(0, 0, c, 0), SlateQuarry.BAD);
+            Due.is("rock", x.rock(2, c, 1), SlateQuarry.BAD);
+            Due.is("face", x.face(2, c, 0), SlateQuarry.BAD);
+            Due.is("clear", x.clear(2, c, 0), SlateQuarry.BAD);
+            Due.is("ask", x.ask(0, 2, c, 0), SlateQuarry.BAD);
         }
         Due.is("face what", x.face(0, 0, 5), SlateQuarry.BAD);
         Due.is("face what", x.face(0, 0, -1), SlateQuarry.BAD);
@@ -95,14 +95,16 @@ public final class WallsTest {
         Due.is("workable", x.face(0, 1, 3), 1);
         Due.is("count(5)", x.count(5), 0);
 
-        SlateQuarry top = new SlateQuarry();
-        Due.laws(top, "hang 1;", 1);
-        top.gang(1);
-        top.ask(0, 4, 5, 0);
-        top.let();
-        top.work(0, 1, 0);
-        top.work(0, 1, 0);
-        Due.is("none above the highest", top.count(5), 0);
+        for (int c = 0; c < 6; c++) {
+            SlateQuarry top = new SlateQuarry();
+            Due.laws(top, "hang 1;", 1);
+            top.gang(1);
+            top.ask(0, 4, c, 0);
+            top.let();
+            Due.is("work", top.work(0, 1, 0), 0);
+            Due.is("work", top.work(0, 1, 0), 0);
+            Due.is("none above the highest", top.count(5), 0);
+        }
     }
 
     private static void hangOfTheWorkedWallAlone() {
@@ -250,7 +252,7 @@ public final class WallsTest {
         Due.is("share", owing.told(1, 1), -14);
     }
 
-    /** An account times men goes beyond an int. */
+    /** An account about as great as 512 calls can make it. */
     private static void greatShares() {
         SlateQuarry x = new SlateQuarry();
         Due.laws(x, "pound 9 300;", 1);
