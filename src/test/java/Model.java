@@ -69,7 +69,7 @@ final class Model {
     private record Fault(int kind, int place) {
     }
 
-    private static final Pattern TOKEN = Pattern.compile(" *([a-z]+|[0-9]+|;|$|.)", Pattern.DOTALL);
+    private static final Pattern TOKEN = Pattern.compile(" *([a-z]+|[0-9]+|;|\\z|.)", Pattern.DOTALL);
     private static final Map<String, int[]> BOUNDS = Map.of("top", new int[] {0, 9999}, "hang", new int[] {1, 20},
             "tool", new int[] {0, 999}, "club", new int[] {0, 100}, "pound", new int[] {0, 9});
 

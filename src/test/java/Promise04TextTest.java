@@ -3,6 +3,7 @@ public final class Promise04TextTest {
     public static void main(String[] args) {
         everyByteAlone();
         everyByteBetweenTokens();
+        everyByteAtTheEnd();
         tokensAreAsLongAsMayBe();
         numbersOfOneToFourFigures();
         numbersThatAreTooLong();
@@ -42,6 +43,21 @@ public final class Promise04TextTest {
                 Due.fault(text, 1, 0);
             } else {
                 Due.fault(text, b == ';' ? 2 : 1, 3);
+            }
+        }
+    }
+
+    private static void everyByteAtTheEnd() {
+        for (char b = 0; b < 256; b++) {
+            String text = "club 5" + b;
+            if (b == ';') {
+                Due.laws(new SlateQuarry(), text, 1);
+            } else {
+                boolean isTheEnd = b == ' ' || b >= '0' && b <= '9';
+                Due.fault(text, isTheEnd ? 2 : 1, isTheEnd ? 7 : 6);
+            }
+            if (b != ' ') {
+                Due.fault("club 5;" + b, b == ';' || b >= '0' && b <= '9' ? 2 : 1, 7);
             }
         }
     }
